@@ -24,6 +24,7 @@ public final class CelloBoats {
     private static final int KEPT_TOLD = 40;
     /** 20 ACTS of 6 BOATS each can be undone, and the 40 ahead of them must still be there then. */
     private static final int KEPT_RING = 256;
+    private static final int SEED_BITS = 0x7fffffff;
 
     // A BOAT's row of the state; an IMAGE tells a BOAT in the same order.
     private static final int MILE = 0;
@@ -657,7 +658,7 @@ public final class CelloBoats {
 
     /** The callers ask for m above 0. */
     private int draw(int m) {
-        seedNow = 1103515245 * seedNow + 12345 & Integer.MAX_VALUE;
+        seedNow = 1103515245 * seedNow + 12345 & SEED_BITS;
         return m > 0 ? seedNow / 64 % m : 0;
     }
 
@@ -1642,12 +1643,13 @@ public final class CelloBoats {
             queue[0] = pack(hull.mile, hull.tight, 0);
             tail = 1;
             int head = 0;
-            for (notes = 1; notes <= NOTES_MOST; notes++) {
+            for (int length = 1; length <= NOTES_MOST; length++) {
+                notes = length;
                 Arrays.fill(met, 0);
                 int layerEnd = tail;
                 for (; head < layerEnd; head++) {
-                    if (follow(hull, wind, target, head, Math.max(0, rosin - notes + 1))) {
-                        return notes;
+                    if (follow(hull, wind, target, head, Math.max(0, rosin - length + 1))) {
+                        return length;
                     }
                 }
             }
