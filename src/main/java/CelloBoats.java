@@ -6,6 +6,7 @@ public final class CelloBoats {
     public static final long NOTHING = -1000000000000000L;
 
     private static final int TAPE_MOST = 1600;
+    private static final int FEED = 20;
     private static final int BOATS_MOST = 6;
     private static final int RIDERS_MOST = 6;
     private static final int PLACES_MOST = 6;
@@ -84,7 +85,8 @@ public final class CelloBoats {
     private static final String WORD_LIST =
         "sound boat at tight rosin score wolf rider key carry slips swamp wind squall note mile went number sunk hour or and not all min max first last often total most least ";
 
-    private final Tape tape = new Tape();
+    private final int[] tape = new int[TAPE_MOST];
+    private int tapeSize;
     private final Scan scan = new Scan();
     private final Formula formula = new Formula(scan);
     private Chart chart = new Chart();
@@ -95,6 +97,7 @@ public final class CelloBoats {
     private final int[] keptRing = new int[KEPT_RING];
     private final Acts acts = new Acts();
     private final Hull hull = new Hull(chart);
+    private final Hull otherHull = new Hull(chart);
     private final Plans plans = new Plans();
     private final Ferry ferry = new Ferry();
     private final Heard heard = new Heard();
@@ -108,30 +111,30 @@ public final class CelloBoats {
     // ---- the tape and the sound
 
     public int feed(int a, int b, int c, int d, int e) {
-        if (!tape.hasRoom()) {
+        if (tapeSize + FEED > TAPE_MOST) {
             refuse(0);
             return NONE;
         }
-        tape.add(a);
-        tape.add(b);
-        tape.add(c);
-        tape.add(d);
-        tape.add(e);
-        return tape.size;
+        addToTape(a);
+        addToTape(b);
+        addToTape(c);
+        addToTape(d);
+        addToTape(e);
+        return tapeSize;
     }
 
     public boolean end(int n) {
-        if (n < 0 || n > tape.size) {
+        if (n < 0 || n > tapeSize) {
             return refuse(0);
         }
-        tape.size = n;
+        tapeSize = n;
         return true;
     }
 
     public int sound() {
-        scan.start(tape);
+        scan.start(tape, tapeSize);
         int statements = soundText.read(spare);
-        tape.size = 0;
+        tapeSize = 0;
         if (scan.fault != 0) {
             refuse(1);
             return NONE;
@@ -284,19 +287,15 @@ public final class CelloBoats {
         if (!isBoat(one) || !isBoat(other) || one == other) {
             return NONE;
         }
-        int hours = hoursAhead(AHEAD_MOST);
-        int[] miles = heard.miles;
         hull.load(chart, state, one);
+        otherHull.load(chart, state, other);
+        int hours = hoursAhead(AHEAD_MOST);
         for (int k = 0; k <= hours; k++) {
-            miles[k] = hull.mile;
-            hull.pass(chart.wind);
-        }
-        hull.load(chart, state, other);
-        for (int k = 0; k <= hours; k++) {
-            if (miles[k] == hull.mile) {
+            if (hull.mile == otherHull.mile) {
                 return k;
             }
             hull.pass(chart.wind);
+            otherHull.pass(chart.wind);
         }
         return NONE;
     }
@@ -378,8 +377,8 @@ public final class CelloBoats {
     // ---- what is heard
 
     public int see() {
-        boolean taken = hasSound() && heard.take(tape);
-        tape.size = 0;
+        boolean taken = hasSound() && heard.take(tape, tapeSize);
+        tapeSize = 0;
         if (!taken) {
             refuse(1);
             return NONE;
@@ -486,12 +485,12 @@ public final class CelloBoats {
 
     public long ask() {
         if (!hasSound()) {
-            tape.size = 0;
+            tapeSize = 0;
             return NOTHING;
         }
-        scan.start(tape);
+        scan.start(tape, tapeSize);
         int kind = formula.question();
-        tape.size = 0;
+        tapeSize = 0;
         if (scan.fault != 0) {
             return NOTHING;
         }
@@ -510,12 +509,12 @@ public final class CelloBoats {
     }
 
     public boolean on() {
-        boolean taken = hasSound() && Picture.isOf(tape, chart);
+        boolean taken = hasSound() && Picture.isOf(tape, tapeSize, chart);
         if (taken) {
             Picture.read(tape, chart, state);
             forgetActs();
         }
-        tape.size = 0;
+        tapeSize = 0;
         return taken || refuse(5);
     }
 
@@ -620,6 +619,15 @@ public final class CelloBoats {
 
     // ---- what changes
 
+    private void addToTape(int number) {
+        for (int shift = 24; shift >= 0; shift -= 8) {
+            if (tapeSize < TAPE_MOST) {
+                tape[tapeSize] = number >> shift & 255;
+                tapeSize++;
+            }
+        }
+    }
+
     /** False, so that a call can answer by it. */
     private boolean refuse(int kind) {
         refused[kind]++;
@@ -709,26 +717,6 @@ public final class CelloBoats {
         return machine.run(formula.code, 0, formula.size);
     }
 
-    /** The bytes that came and were not used yet. */
-    private static final class Tape {
-        private static final int FEED = 20;
-        final int[] bytes = new int[TAPE_MOST];
-        int size;
-
-        boolean hasRoom() {
-            return size + FEED <= TAPE_MOST;
-        }
-
-        void add(int number) {
-            for (int shift = 24; shift >= 0; shift -= 8) {
-                if (size < TAPE_MOST) {
-                    bytes[size] = number >> shift & 255;
-                    size++;
-                }
-            }
-        }
-    }
-
     /** THE SOUND: what stays so while the HOURS pass. */
     private static final class Chart {
         /** The last mile; 0 while there is no sound. */
@@ -748,7 +736,7 @@ public final class CelloBoats {
         /** A bit for each NOTE, by mile. */
         private final int[] wolfBits = new int[MILES];
         final int[] code = new int[TAPE_MOST];
-        /** Where each formula's code is; one that was not told has none. */
+        /** Where each formula's code is. */
         final int[] from = new int[FORMULAS];
         final int[] to = new int[FORMULAS];
 
@@ -845,9 +833,9 @@ public final class CelloBoats {
             }
         }
 
-        void start(Tape tape) {
-            text = tape.bytes;
-            size = Math.min(tape.size, text.length);
+        void start(int[] bytes, int many) {
+            text = bytes;
+            size = Math.min(many, bytes.length);
             after = 0;
             fault = 0;
             place = NONE;
@@ -1003,13 +991,18 @@ public final class CelloBoats {
     }
 
     /**
-     * Turns TESTS and SUMS into code for the Machine: numbers as they are; words and signs, by
-     * their number or byte, below 0 and behind what they work on.
+     * Turns TESTS and SUMS into code for the Machine: numbers as they are; words and signs by
+     * their number or byte, with a mark of what they work on, and behind that.
      */
     private static final class Formula {
         private static final int OPEN_MOST = 6;
         private static final int NUMBER_MOST = 9999;
         private static final int QUESTION = FORMULAS;
+        // The marks stand above any number of a text.
+        static final int MARK = NUMBER_MOST + 1;
+        static final int OF_NONE = MARK;
+        static final int OF_ONE = 2 * MARK;
+        static final int OF_TWO = 3 * MARK;
 
         private final Scan scan;
         final int[] code = new int[TAPE_MOST];
@@ -1028,21 +1021,24 @@ public final class CelloBoats {
             asksCarry = false;
         }
 
-        void add(int formula) {
+        void begin(int formula) {
             sort = formula;
             open = 0;
-            if (formula == SWAMP) {
-                test();
-            } else {
-                sum();
+        }
+
+        /** The code of a formula that a SOUND does not tell. */
+        void addWithout(int formula) {
+            switch (formula) {
+                case CARRY: emit(1); break;
+                case SLIPS: emit(OF_NONE + W_TIGHT); break;
+                default: emit(0);
             }
         }
 
         /** The word that the QUESTION begins with. */
         int question() {
             clear();
-            sort = QUESTION;
-            open = 0;
+            begin(QUESTION);
             int kind = scan.wordHere();
             if (kind == W_FIRST || kind == W_LAST || kind == W_OFTEN) {
                 scan.next();
@@ -1066,10 +1062,6 @@ public final class CelloBoats {
             }
         }
 
-        private void emitSymbol(int symbol) {
-            emit(-1 - symbol);
-        }
-
         private boolean opens() {
             if (open >= OPEN_MOST) {
                 scan.fail(4, scan.at);
@@ -1080,12 +1072,12 @@ public final class CelloBoats {
             return true;
         }
 
-        private void test() {
+        void test() {
             both();
             for (int i = 0; i < TAPE_MOST && scan.isWord(W_OR); i++) {
                 scan.next();
                 both();
-                emitSymbol(W_OR);
+                emit(OF_TWO + W_OR);
             }
         }
 
@@ -1094,7 +1086,7 @@ public final class CelloBoats {
             for (int i = 0; i < TAPE_MOST && scan.isWord(W_AND); i++) {
                 scan.next();
                 fact();
-                emitSymbol(W_AND);
+                emit(OF_TWO + W_AND);
             }
         }
 
@@ -1102,7 +1094,7 @@ public final class CelloBoats {
             if (scan.isWord(W_NOT)) {
                 if (opens()) {
                     fact();
-                    emitSymbol(W_NOT);
+                    emit(OF_ONE + W_NOT);
                     open--;
                 }
             } else if (scan.isSign('[')) {
@@ -1128,16 +1120,16 @@ public final class CelloBoats {
             }
             scan.next();
             sum();
-            emitSymbol(sign);
+            emit(OF_TWO + sign);
         }
 
-        private void sum() {
+        void sum() {
             product();
             for (int i = 0; i < TAPE_MOST && (scan.isSign('+') || scan.isSign('-')); i++) {
                 int sign = scan.signHere();
                 scan.next();
                 product();
-                emitSymbol(sign);
+                emit(OF_TWO + sign);
             }
         }
 
@@ -1147,7 +1139,7 @@ public final class CelloBoats {
                 int sign = scan.signHere();
                 scan.next();
                 part();
-                emitSymbol(sign);
+                emit(OF_TWO + sign);
             }
         }
 
@@ -1166,12 +1158,12 @@ public final class CelloBoats {
             } else if (sort == QUESTION && (word == W_CARRY || word == W_SCORE)) {
                 if (opens()) {
                     part();
-                    emitSymbol(word);
+                    emit(OF_ONE + word);
                     open--;
                     asksCarry |= word == W_CARRY;
                 }
             } else if (isValue(word)) {
-                emitSymbol(word);
+                emit(OF_NONE + word);
                 scan.next();
             } else {
                 scan.failHere();
@@ -1188,7 +1180,7 @@ public final class CelloBoats {
                 sum();
                 scan.needSign(')');
                 open--;
-                emitSymbol(word);
+                emit(OF_TWO + word);
             }
         }
 
@@ -1245,8 +1237,19 @@ public final class CelloBoats {
             if (count == 0) {
                 scan.failHere();
             }
+            fillIn();
             System.arraycopy(formula.code, 0, chart.code, 0, formula.size);
             return count;
+        }
+
+        private void fillIn() {
+            for (int which = 0; which < FORMULAS; which++) {
+                if (!chart.isTold(which)) {
+                    chart.from[which] = formula.size;
+                    formula.addWithout(which);
+                    chart.to[which] = formula.size;
+                }
+            }
         }
 
         private void statement() {
@@ -1349,8 +1352,13 @@ public final class CelloBoats {
                 return;
             }
             scan.next();
+            formula.begin(which);
             chart.from[which] = formula.size;
-            formula.add(which);
+            if (which == SWAMP) {
+                formula.test();
+            } else {
+                formula.sum();
+            }
             chart.to[which] = formula.size;
         }
     }
@@ -1373,10 +1381,15 @@ public final class CelloBoats {
         int run(int[] code, int from, int to) {
             top = 0;
             for (int i = Math.max(0, from); i < to && i < code.length; i++) {
-                if (code[i] >= 0) {
-                    push(code[i]);
-                } else {
-                    step(-1 - code[i]);
+                int symbol = code[i] % Formula.MARK;
+                switch (code[i] - symbol) {
+                    case 0: push(symbol); break;
+                    case Formula.OF_NONE: push(valueOf(symbol)); break;
+                    case Formula.OF_ONE: push(workOne(symbol, pop())); break;
+                    default:
+                        int right = pop();
+                        int left = pop();
+                        push(workTwo(symbol, left, right));
                 }
             }
             return pop();
@@ -1397,52 +1410,35 @@ public final class CelloBoats {
             return stack[top];
         }
 
-        private void step(int symbol) {
-            switch (symbol) {
-                case W_NOT: push(1 - pop()); break;
-                case W_CARRY: push(at(reaches, NOTES, 0)); break;
-                case W_SCORE: push(at(score, places, NONE)); break;
-                case W_NOTE:
-                case W_TIGHT:
-                case W_ROSIN:
-                case W_MILE:
-                case W_WIND:
-                case W_WENT:
-                case W_NUMBER:
-                case W_SUNK:
-                case W_HOUR:
-                    push(values[symbol]);
-                    break;
-                default: join(symbol);
+        private int valueOf(int word) {
+            return word >= 0 && word < OWN_WORDS ? values[word] : 0;
+        }
+
+        private int workOne(int word, int value) {
+            switch (word) {
+                case W_NOT: return 1 - value;
+                case W_CARRY: return value >= 0 && value < NOTES ? reaches[value] : 0;
+                case W_SCORE: return value >= 0 && value < places && value < PLACES_MOST ? score[value] : NONE;
+                default: return 0;
             }
         }
 
-        /** What stands at the place on the stack, of the first so many. */
-        private int at(int[] row, int many, int without) {
-            int k = pop();
-            return k >= 0 && k < many && k < row.length ? row[k] : without;
-        }
-
-        private void join(int symbol) {
-            int right = pop();
-            int left = pop();
+        private static int workTwo(int symbol, int left, int right) {
             switch (symbol) {
-                case '+': push(cut((long) left + right)); break;
-                case '-': push(cut((long) left - right)); break;
-                case '*': push(cut((long) left * right)); break;
-                case '/': push(right == 0 ? 0 : Math.floorDiv(left, right)); break;
-                case '<': push(left < right ? 1 : 0); break;
-                case '>': push(left > right ? 1 : 0); break;
-                case '=': push(left == right ? 1 : 0); break;
+                case '+': return cut((long) left + right);
+                case '-': return cut((long) left - right);
+                case '*': return cut((long) left * right);
+                case '/': return right == 0 ? 0 : Math.floorDiv(left, right);
+                case '<': return left < right ? 1 : 0;
+                case '>': return left > right ? 1 : 0;
+                case '=': return left == right ? 1 : 0;
                 case W_MIN:
                 case W_AND:
-                    push(Math.min(left, right));
-                    break;
+                    return Math.min(left, right);
                 case W_MAX:
                 case W_OR:
-                    push(Math.max(left, right));
-                    break;
-                default: push(0);
+                    return Math.max(left, right);
+                default: return 0;
             }
         }
 
@@ -1525,14 +1521,8 @@ public final class CelloBoats {
                 return 0;
             }
             show(note, wind);
-            return Math.max(-CARRY_MOST, Math.min(CARRY_MOST, work(CARRY, 1)));
-        }
-
-        private int work(int formula, int without) {
-            if (!chart.isTold(formula)) {
-                return without;
-            }
-            return machine.run(chart.code, chart.from[formula], chart.to[formula]);
+            int far = machine.run(chart.code, chart.from[CARRY], chart.to[CARRY]);
+            return Math.max(-CARRY_MOST, Math.min(CARRY_MOST, far));
         }
 
         void bow(int note, int wind) {
@@ -1540,10 +1530,11 @@ public final class CelloBoats {
             mile = Math.max(0, Math.min(chart.last, mile + reach(note, wind)));
             show(note, wind);
             machine.values[W_WENT] = mile - from;
-            if (!isLanded() && work(SWAMP, 0) == 1) {
+            if (!isLanded() && machine.run(chart.code, chart.from[SWAMP], chart.to[SWAMP]) == 1) {
                 sunk = true;
             }
-            tight = Math.max(0, Math.min(FULL, work(SLIPS, tight)));
+            int slipped = machine.run(chart.code, chart.from[SLIPS], chart.to[SLIPS]);
+            tight = Math.max(0, Math.min(FULL, slipped));
             if (rosin > 0) {
                 rosin--;
             }
@@ -1770,20 +1761,18 @@ public final class CelloBoats {
         private final int[] counts = new int[NOTES + 1];
         int tellingHour;
         int tellingLeft;
-        /** Where one BOAT is HOUR by HOUR, for another to meet it. */
-        final int[] miles = new int[AHEAD_MOST + 1];
 
-        boolean take(Tape tape) {
-            if (tape.size < 2 || tape.size > ROWS_MOST * 2 || tape.size % 2 != 0) {
+        boolean take(int[] bytes, int size) {
+            if (size < 2 || size > ROWS_MOST * 2 || size % 2 != 0 || size > bytes.length) {
                 return false;
             }
-            for (int i = 0; i < tape.size; i += 2) {
-                if (tape.bytes[i] >= HOURS || tape.bytes[i + 1] > SILENT) {
+            for (int i = 0; i < size; i += 2) {
+                if (bytes[i] >= HOURS || bytes[i + 1] > SILENT) {
                     return false;
                 }
             }
-            System.arraycopy(tape.bytes, 0, seen, 0, tape.size);
-            rows = tape.size / 2;
+            System.arraycopy(bytes, 0, seen, 0, size);
+            rows = size / 2;
             return true;
         }
 
@@ -1880,17 +1869,17 @@ public final class CelloBoats {
             return length;
         }
 
-        static boolean isOf(Tape tape, Chart chart) {
+        static boolean isOf(int[] row, int many, Chart chart) {
             int length = lengthFor(chart);
-            if (tape.size != length || tape.bytes[length - 1] != check(tape.bytes, length - 1)) {
+            if (many != length || length > row.length || row[length - 1] != check(row, length - 1)) {
                 return false;
             }
-            if (tape.bytes[0] * 256 + tape.bytes[1] > LAST_HOUR) {
+            if (row[0] * 256 + row[1] > LAST_HOUR) {
                 return false;
             }
             int from = 2;
             for (int boat = 0; boat < chart.boats; boat++) {
-                if (!isBoatRow(tape.bytes, from, chart, chart.notes[boat])) {
+                if (!isBoatRow(row, from, chart, chart.notes[boat])) {
                     return false;
                 }
                 from += SCORE + chart.notes[boat];
@@ -1922,12 +1911,12 @@ public final class CelloBoats {
         }
 
         /** Only what isOf has found to be one. */
-        static void read(Tape tape, Chart chart, int[] state) {
-            state[HOUR] = tape.bytes[0] * 256 + tape.bytes[1];
+        static void read(int[] row, Chart chart, int[] state) {
+            state[HOUR] = row[0] * 256 + row[1];
             int from = 2;
             for (int boat = 0; boat < chart.boats; boat++) {
                 int length = SCORE + chart.notes[boat];
-                System.arraycopy(tape.bytes, from, state, boat * ROW, length);
+                System.arraycopy(row, from, state, boat * ROW, length);
                 from += length;
             }
         }
