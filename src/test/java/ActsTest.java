@@ -156,10 +156,15 @@ public final class ActsTest {
     private static void always() {
         CelloBoats x = Check.with("sound 60;squall 100;");
         Check.due("always", x.chance(100), 100);
-        x = Check.with("sound 60;boat a at 0 tight 0 rosin 0;score a 1;carry 0;slips wind+10;squall 50;");
         CelloBoats never = Check.with("sound 60;");
         never.seed(5);
         Check.due("never", never.chance(7), 0);
+        CelloBoats calm = Check.with("sound 60;squall 100;");
+        Check.put(calm, "sound 60;");
+        calm.sound();
+        for (int i = 0; i < 9; i++) {
+            Check.due("never without a squall told", calm.chance(100), 0);
+        }
         // without squalls there is a draw for each hour all the same, and the seed outlives a sound
         Check.put(never, "sound 60;boat a at 0 tight 0 rosin 0;score a 1;carry 0;slips wind+10;squall 50;");
         never.sound();

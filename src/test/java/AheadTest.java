@@ -14,7 +14,37 @@ public final class AheadTest {
         planEdges();
         strung();
         better();
+        sixBoats();
         Check.finish();
+    }
+
+    /** As many as there can be, each with as much as it can have. */
+    private static void sixBoats() {
+        StringBuilder text = new StringBuilder("sound 60;");
+        for (char c = 'a'; c < 'g'; c++) {
+            text.append("boat ").append(c).append(" at ").append(c - 'a').append(" tight 99 rosin 99;");
+            text.append("rider r").append(c).append(" key ").append(c - 'a').append(";");
+            for (int k = 0; k < 6; k++) {
+                text.append("score ").append(c).append(" ").append((c - 'a' + k) % 8).append(";");
+            }
+        }
+        CelloBoats x = Check.with(text + "swamp mile=23 and note=2;");
+        Check.due("six boats", x.has(1), 6);
+        Check.due("six riders", x.rides(-1), 6);
+        Check.due("cat of six", x.cat(1), 5);
+        Check.due("cat of six, number", x.cat(0), 17);
+        Check.due("which of six", x.which(), 63);
+        Check.due("tells of six", x.tells(1), 1);
+        Check.due("image of six", x.image(), 69);
+        Check.due("last byte of six", x.octet(69), -1);
+        Check.due("hours of six", x.hours(60), 5);
+        Check.due("kept of six", x.has(7), 6);
+        Check.due("kept sunk", x.kept(0, 1), 5);
+        Check.due("rides of six", x.rides(-1), 0);
+        Check.due("the last of six", x.later(5, 0, 0), 23);
+        Check.due("meets of six", x.meets(0, 4), 0);
+        Check.due("undo of six", x.undo(), true);
+        Check.due("the last of six undone", x.boat(5, 0), 5);
     }
 
     private static void later() {
@@ -164,6 +194,12 @@ public final class AheadTest {
         CelloBoats cut = Check.with("sound 40;boat a at 36 tight 0 rosin 0;carry note*3-1;");
         dueRow("plan cut at the last", cut, 0, 40, 2);
         dueRow("plan back and on", cut, 0, 37, 0, 1);
+        CelloBoats home = Check.with("sound 40;boat a at 1 tight 0 rosin 0;carry 5*max(0,1-mile)-min(mile,1);");
+        dueRow("plan by mile 0", home, 0, 5, 0, 0);
+        CelloBoats strings = Check.with("sound 40;boat a at 0 tight 0 rosin 0;slips note*64;"
+            + "carry 1+5*max(0,1-(tight-64)*(tight-64));");
+        dueRow("plan by being as tight as 64", strings, 0, 7, 1, 0);
+        dueRow("plan by being so and no more", strings, 0, 8, 0, 1, 0);
     }
 
     private static void planEdges() {
@@ -200,6 +236,9 @@ public final class AheadTest {
         Check.due("strung near hours", x.strung(3, 1, 1), 1);
         Check.due("strung boat 4", x.strung(4, 5, 0), -1);
         Check.due("strung nothing is changed", x.boat(0, 1), 50);
+        CelloBoats most = Check.with("sound 20;boat a at 12 tight 50 rosin 0;score a 0;carry tight-91;");
+        Check.due("strung 99", most.strung(0, 1, 0), 99);
+        Check.due("strung as it is", Check.with("sound 20;boat a at 12 tight 8 rosin 0;score a 0;carry tight;").strung(0, 1, 0), 8);
     }
 
     private static void better() {
@@ -224,5 +263,13 @@ public final class AheadTest {
         Check.due("better place of a new one", x.better(3, 30, 0), 0);
         Check.due("better least note", x.better(3, 30, 1), 1);
         Check.due("better hours of a new one", x.better(3, 30, 2), 1);
+        CelloBoats least = Check.with("sound 20;boat a at 18 tight 0 rosin 0;score a 7;score a 7;carry 2-note/7;");
+        Check.due("better place 0", least.better(0, 9, 0), 0);
+        Check.due("better note 0", least.better(0, 9, 1), 0);
+        CelloBoats second = Check.with("sound 20;boat a at 16 tight 0 rosin 0;score a 1;score a 1;carry note;wolf 16 7;wolf 16 3;wolf 16 4;"
+            + "wolf 16 5;wolf 16 6;wolf 16 2;");
+        Check.due("better place 1", second.better(0, 3, 0), 1);
+        Check.due("better note 3", second.better(0, 3, 1), 3);
+        Check.due("better behind 2", second.better(0, 3, 2), 2);
     }
 }

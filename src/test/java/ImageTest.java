@@ -44,6 +44,11 @@ public final class ImageTest {
         Check.see(x, 0, 8);
         Check.put(x, Check.image(3, 231, 9, 99, 98, 0, 1, 3, 4, 8, 0, 99, 1, 0));
         Check.due("on", x.on(), true);
+        Check.put(x, Check.image(1, 0, 9, 99, 98, 0, 1, 3, 4, 8, 0, 99, 1, 0));
+        Check.due("on at 256", x.on(), true);
+        dueImage("at 256", x, Check.image(1, 0, 9, 99, 98, 0, 1, 3, 4, 8, 0, 99, 1, 0));
+        Check.put(x, Check.image(3, 231, 9, 99, 98, 0, 1, 3, 4, 8, 0, 99, 1, 0));
+        Check.due("on at 999", x.on(), true);
         int[] has = {9, 2, 0, 0, 999, 1, 1, 0, 1, 0};
         for (int what = 0; what < has.length; what++) {
             Check.due("on has " + what, x.has(what), has[what]);
@@ -94,6 +99,9 @@ public final class ImageTest {
         refused(x, "sunk at the last mile", Check.image(0, 0, 9, 2, 3, 1, 0, 7, 0, 4, 5, 6, 0, 0));
         refused(x, "place 2 of 2", Check.image(0, 0, 1, 2, 3, 0, 2, 7, 0, 4, 5, 6, 0, 0));
         refused(x, "place 1 of none", Check.image(0, 0, 1, 2, 3, 0, 0, 7, 0, 4, 5, 6, 0, 1));
+        byte[] longer = java.util.Arrays.copyOf(Check.image(0, 0, 1, 2, 3, 0, 0, 7, 0, 4, 5, 6, 0, 0), 16);
+        refused(x, "a byte behind it", longer);
+        refused(x, "first note 8", Check.image(0, 0, 1, 2, 3, 0, 0, 8, 0, 4, 5, 6, 0, 0));
         refused(x, "note 8", Check.image(0, 0, 1, 2, 3, 0, 0, 7, 8, 4, 5, 6, 0, 0));
         Check.put(x, Check.image(0, 0, 9, 99, 99, 0, 1, 7, 7, 8, 99, 99, 1, 0));
         Check.due("on", x.on(), true);

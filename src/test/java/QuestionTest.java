@@ -107,6 +107,13 @@ public final class QuestionTest {
         Check.asked(x, "often 1=1 or 1=2 and 1=2", 3);
         Check.asked(x, "often[1=1 or 1=2]and 1=2", 0);
         Check.asked(x, "often not 1=2 and not 2=3", 3);
+        StringBuilder ones = new StringBuilder("total 1");
+        for (int i = 0; i < 790; i++) {
+            ones.append("+1");
+        }
+        for (int i = 0; i < 3; i++) {
+            Check.asked(x, ones.toString(), 3 * 791);
+        }
     }
 
     private static void withoutBoats() {

@@ -57,11 +57,14 @@ public final class RidersHeardTest {
         Check.due("see note 9", Check.see(x, 0, 9), -1);
         Check.due("see high bytes", Check.see(x, 255, 255), -1);
         Check.due("see odd", Check.see(x, 0, 1, 1), -1);
+        x.feed(0x00010001, 0, 0, 0, 0);
+        x.end(3);
+        Check.due("see odd, cut", x.see(), -1);
         Check.due("has stays", x.has(8), 1);
         Check.due("see 16", Check.see(x, new int[32]), 16);
         Check.due("see 17", Check.see(x, new int[34]), -1);
         Check.due("has 16", x.has(8), 16);
-        Check.due("status 1", x.status(1), 6);
+        Check.due("status 1", x.status(1), 7);
         Check.due("which", x.which(), 0);
         x.note(0, 0, 0);
         Check.due("which now", x.which(), 1);

@@ -95,7 +95,13 @@ public final class SoundTextTest {
         Check.soundFault("sound 5;boats", 1, 8);
         Check.soundFault("sound 5;\tboat", 1, 8);
         Check.soundFault("sound 5;boat tight", 1, 13);
-        Check.soundFault("sound 5;boat number", 1, 13);
+        for (String own : Model.OWN) {
+            Check.soundFault("sound 5;boat " + own, 1, 13);
+            Check.soundFault("sound 5;rider " + own, 1, 14);
+        }
+        for (String free : new String[] {"first", "last", "often", "total", "most", "least", "test", "none"}) {
+            Check.soundFine("sound 5;rider " + free + " key 1;", 2);
+        }
         Check.soundFault("sound 5;boat 5", 1, 13);
         Check.soundFault("sound 5;boat abcdef", 1, 19);
         Check.soundFault("sound 5;boat abcdefghi at", 1, 19);
