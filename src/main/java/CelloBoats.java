@@ -1449,7 +1449,7 @@ public final class CelloBoats {
 
     /** One BOAT taken out of the state, to be bowed in earnest or on trial. */
     private static final class Hull {
-        private static final int CARRY_MOST = 9;
+        static final int CARRY_MOST = 9;
 
         final Machine machine = new Machine();
         private Chart chart;
@@ -1672,7 +1672,9 @@ public final class CelloBoats {
                     row = rowNow;
                     return true;
                 }
-                if (!hull.isLanded()) {
+                // What is too far off for the NOTES that are left need not be followed.
+                int left = NOTES_MOST - notes;
+                if (!hull.isLanded() && Math.abs(hull.mile - target) <= left * Hull.CARRY_MOST) {
                     append(hull, rowNow);
                 }
             }
@@ -1682,7 +1684,7 @@ public final class CelloBoats {
         private void append(Hull hull, int rowNow) {
             int cell = hull.mile * 2 + hull.tight / 64;
             long bit = 1L << hull.tight % 64;
-            if (notes == NOTES_MOST || tail >= QUEUE || cell < 0 || cell >= met.length) {
+            if (tail >= QUEUE || cell < 0 || cell >= met.length) {
                 return;
             }
             if ((met[cell] & bit) != 0) {

@@ -98,7 +98,7 @@ public final class LanguageTest {
         while (imports.find()) {
             fine("import " + imports.group(1), imports.group(1).equals("java.util.Arrays"));
         }
-        Set<String> library = new HashSet<>(Arrays.asList("Math.max", "Math.min", "Math.floorDiv", "Arrays.fill", "System.arraycopy"));
+        Set<String> library = new HashSet<>(Arrays.asList("Math.abs", "Math.max", "Math.min", "Math.floorDiv", "Arrays.fill", "System.arraycopy"));
         Matcher calls = Pattern.compile("\\b(Math|Arrays|System|Integer|Long|String|Character)\\.(\\w+)").matcher(source);
         while (calls.find()) {
             fine("library call " + calls.group(), library.contains(calls.group()));
