@@ -189,12 +189,12 @@ public final class BoatsTest {
         Check.due("kept undone", x.has(7), 40);
         Check.due("kept oldest undone", x.kept(0, 0), 0);
         Check.due("kept newest undone", x.kept(39, 0), 39);
-        for (int i = 0; i < 300; i++) {
+        for (int i = 0; i < 100; i++) {
             x.raise(0);
             x.hours(1);
         }
-        Check.due("kept oldest of many", x.kept(0, 0), 300);
-        Check.due("kept newest of many", x.kept(39, 0), 339);
+        Check.due("kept oldest of many", x.kept(0, 0), 100);
+        Check.due("kept newest of many", x.kept(39, 0), 139);
     }
 
     private static void refusals() {

@@ -4,8 +4,14 @@ import java.nio.charset.StandardCharsets;
 final class Check {
     private static int wrong = 0;
     private static int right = 0;
+    private static String about = "";
 
     private Check() {
+    }
+
+    /** Stands ahead of what is printed from now on. */
+    static void about(String words) {
+        about = words;
     }
 
     static void due(String what, long got, long want) {
@@ -13,7 +19,7 @@ final class Check {
             right++;
         } else {
             wrong++;
-            System.out.println(what + " answered " + got + ", due is " + want);
+            System.out.println(about + what + " answered " + got + ", due is " + want);
         }
     }
 

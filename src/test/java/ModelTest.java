@@ -50,7 +50,7 @@ public final class ModelTest {
             step();
         }
         sound();
-        while (calls < 480) {
+        while (calls < 400) {
             if (oneIn(60)) {
                 sound();
             } else {
