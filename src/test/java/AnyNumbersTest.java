@@ -1,8 +1,9 @@
 import java.lang.reflect.InvocationTargetException;
 import java.lang.reflect.Method;
 import java.lang.reflect.Modifier;
+import java.util.Random;
 
-/** LANGUAGE.md 7: no call throws, whatever its numbers are, in any state. */
+/** LANGUAGE.md 7: no call throws, whatever its numbers are, whatever is on the tape, in any state. */
 public final class AnyNumbersTest {
     private static final int[] NUMBERS = {Integer.MIN_VALUE, -1073741824, -100, -2, -1, 0, 1, 2, 5, 6, 7, 8, 30, 31, 60, 61, 99, 100,
         999, 1600, 1073741824, Integer.MAX_VALUE};
@@ -16,8 +17,38 @@ public final class AnyNumbersTest {
                     callAll(sound, call);
                 }
             }
+            anyTapes(sound);
         }
         Check.finish();
+    }
+
+    /** Words, signs and bytes in any order, taken as a sound, a question, rows seen, an image. */
+    private static void anyTapes(String sound) throws IllegalAccessException {
+        String[] pieces = ("sound 9;|boat |a|b|at 1 |tight 2 |rosin 3|;|score a 1;|wolf 1 1;|rider r key 1;|carry |slips |swamp |note|mile|went|"
+            + "number|1|23|456|7890|+|-|*|/|<|>|=|(|)|[|]|,| |\n|min(|max(|not |all| and | or |first |last |often |total |most |least |"
+            + "\u0000|\u0001|\u0007|\u00ff|hour|sunk|abcdefgh|12345").split("\\|");
+        Random random = new Random(sound.length());
+        for (int i = 0; i < 2000; i++) {
+            StringBuilder text = new StringBuilder(i % 4 == 0 ? "sound 9;" : i % 4 == 1 ? "total " : i % 4 == 2 ? "often " : "");
+            for (int k = random.nextInt(i % 50 == 0 ? 200 : 20); k > 0; k--) {
+                text.append(pieces[random.nextInt(pieces.length)]);
+            }
+            String tape = text.substring(0, Math.min(1600, text.length()));
+            for (String name : new String[] {"ask", "see", "on", "sound"}) {
+                CelloBoats x = fresh(sound);
+                Check.put(x, tape);
+                Check.due(name + " of " + tape + " throws", throwsBy(x, callNamed(name), new Object[0]), false);
+            }
+        }
+    }
+
+    private static Method callNamed(String name) {
+        for (Method call : CelloBoats.class.getDeclaredMethods()) {
+            if (call.getName().equals(name)) {
+                return call;
+            }
+        }
+        throw new IllegalStateException(name);
     }
 
     private static String fleet() {

@@ -79,6 +79,14 @@ public final class EdgesPromises1Test {
         Check.put(z, "sound 9;" + " ".repeat(1592));
         Check.due("refused behind a full tape", z.feed(-1, -1, -1, -1, -1), -1);
         Check.due("a full tape", z.sound(), 1);
+        String boat = "sound 9;boat a at 0 tight 0 rosin 0;carry 5";
+        String rest = "+1-1".repeat((1599 - boat.length()) / 4);
+        String blanks = " ".repeat(1599 - boat.length() - rest.length());
+        Check.put(z, boat + rest + blanks + ";");
+        Check.due("a full tape of one sum", z.sound(), 3);
+        Check.due("that sum", z.carry(0, 0), 5);
+        Check.asked(z, "total 1" + "+1".repeat(796) + " ", 797);
+        Check.asked(z, "often all" + " and all".repeat(198) + "       ", 1);
     }
 
     private static void end() {

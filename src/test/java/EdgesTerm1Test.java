@@ -482,6 +482,11 @@ public final class EdgesTerm1Test {
         Check.soundFine("sound 9;swamp not not not[[(1)=(2)]];", 2);
         Check.soundFault("sound 9;swamp not not not[[[1=(2", 4, 30);
         Check.soundFault("sound 9;swamp not not not not not not 1<(2);", 4, 40);
+        // six that are open at once, with as much as can be waiting ahead of each
+        swamps("1=2 or 1=1 and 1+1*min(9,1+1*min(9,1+1*min(9,1+1*min(9,1+1*min(9,1+1*min(9,2))))))=8", true);
+        swamps("1=2 or 1=1 and 2-1*max(0,2-1*max(0,2-1*max(0,2-1*max(0,2-1*max(0,2-1*max(0,1))))))=1", true);
+        swamps("1=2 or all and[1=2 or all and[1=2 or all and[1=2 or all and[1=2 or all and[1=2 or all and 1+2*3=7]]]]]", true);
+        swamps("1=2 or all and not[1=2 or all and not[1=2 or all and not 1+2*(3-1)=5]]", false);
         // one too many that can't stand there is a FAULT 1
         Check.soundFault("sound 9;carry (((((([", 1, 20);
         Check.soundFault("sound 9;carry ((((((not", 1, 20);
