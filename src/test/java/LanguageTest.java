@@ -46,6 +46,8 @@ public final class LanguageTest {
         for (Field f : c.getDeclaredFields()) {
             fine(f + " is private or a constant", Modifier.isPrivate(f.getModifiers()) != constants.contains(f.getName()));
         }
+        Check.due("NONE", CelloBoats.NONE, -1);
+        Check.due("NOTHING", CelloBoats.NOTHING, -1000000000000000L);
         Constructor<?>[] makers = c.getDeclaredConstructors();
         fine("one constructor", makers.length == 1 && Modifier.isPublic(makers[0].getModifiers()));
     }
