@@ -80,6 +80,9 @@ public final class EdgesTerm1Test {
         Check.see(x, 1, 5);
         Check.due("the sixth by its note", x.which(), 32);
         Check.due("lands", x.lands(5), 9);
+        Check.due("none sinks", x.cat(0), -1);
+        Check.due("none has sunk", x.has(6), 0);
+        Check.due("none has landed", x.has(5), 0);
         Check.due("plan", x.plan(5, 3, -1), 3);
         Check.due("hours", x.hours(2), 0);
         for (int boat = 0; boat < 6; boat++) {
@@ -101,6 +104,15 @@ public final class EdgesTerm1Test {
         CelloBoats like = Check.with(sixOf("boat ", " at 0 tight 1 rosin 1;") + scores);
         Check.due("six that are alike", like.tells(1), 6);
         Check.due("the first hour", like.tells(0), 0);
+        CelloBoats sinks = Check.with(sixOf("boat ", " at 0 tight 1 rosin 1;") + "score f 5;swamp all;");
+        Check.due("the sixth sinks", sinks.cat(1), 5);
+        CelloBoats late = Check.with(sixOf("boat ", " at 0 tight 1 rosin 61;") + "score f 5;carry 0;swamp rosin=1;");
+        Check.due("the sixth sinks too late", late.cat(1), -1);
+        late.hours(1);
+        Check.due("the sixth sinks in the last hour", late.cat(1), 5);
+        sinks.hours(1);
+        Check.due("the sixth has sunk", sinks.has(6), 1);
+        Check.due("the sixth is raised", sinks.raise(5), true);
     }
 
     /** A sound, and one for each of the letters a to f. */
@@ -387,6 +399,9 @@ public final class EdgesTerm1Test {
         Check.soundFault("sound 9;carry +1;", 1, 14);
         Check.soundFault("sound 9;carry min 1,2);", 1, 18);
         Check.soundFault("sound 9;carry max 1;", 1, 18);
+        Check.soundFault("sound 9;carry min+1;", 1, 17);
+        Check.soundFault("sound 9;carry max;", 1, 17);
+        Check.soundFault("sound 9;carry min(max,2);", 1, 21);
         Check.soundFault("sound 9;carry min(1 2);", 1, 20);
         Check.soundFault("sound 9;carry max(1,2,3);", 1, 21);
         Check.soundFault("sound 9;carry (1,2);", 1, 16);
