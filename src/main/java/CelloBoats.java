@@ -839,6 +839,7 @@ public final class CelloBoats {
             after = 0;
             fault = 0;
             place = NONE;
+            kind = END;
             next();
         }
 
@@ -858,42 +859,48 @@ public final class CelloBoats {
             if (fault != 0) {
                 return;
             }
+            boolean behindWord = kind == WORD || kind == NUMBER;
             int from = after;
             at = from;
             for (int i = from; i < size && (text[i] == ' ' || text[i] == 10); i++) {
                 at = i + 1;
             }
-            after = at;
-            if (at >= size) {
-                kind = END;
-            } else if (isLetter(text[at])) {
-                readWord();
-            } else if (isDigit(text[at])) {
-                readNumber();
-            } else {
+            int letters = run('a', 'z');
+            int digits = run('0', '9');
+            if (letters > 0) {
+                readWord(letters);
+            } else if (digits > 0) {
+                readNumber(digits);
+            } else if (at < size) {
                 kind = SIGN;
                 value = text[at];
                 after = at + 1;
+            } else {
+                kind = END;
+                after = at;
             }
             // A word and a number side by side need a blank.
-            if ((kind == WORD || kind == NUMBER) && at == from && isGlued()) {
+            if ((kind == WORD || kind == NUMBER) && at == from && behindWord) {
                 kind = BAD;
             }
         }
 
-        private boolean isGlued() {
-            return at > 0 && at <= size && (isLetter(text[at - 1]) || isDigit(text[at - 1]));
+        /** How many bytes from here on are of these. */
+        private int run(int least, int most) {
+            int many = 0;
+            for (int i = at; i < size && text[i] >= least && text[i] <= most; i++) {
+                many++;
+            }
+            return many;
         }
 
-        private void readWord() {
+        private void readWord(int letters) {
             kind = WORD;
-            length = 0;
+            length = letters;
+            after = at + letters;
             name = 0;
-            for (; after < size && isLetter(text[after]); after++) {
-                if (length < LETTERS_MOST) {
-                    name |= text[after] - 'a' + 1 << 5 * (LETTERS_MOST - 1 - length);
-                }
-                length++;
+            for (int k = 0; k < letters && k < LETTERS_MOST; k++) {
+                name |= text[at + k] - 'a' + 1 << 5 * (LETTERS_MOST - 1 - k);
             }
             word = NONE;
             for (int i = 0; i < WORDS && length <= LETTERS_MOST; i++) {
@@ -903,24 +910,14 @@ public final class CelloBoats {
             }
         }
 
-        private void readNumber() {
+        private void readNumber(int digits) {
             kind = NUMBER;
-            length = 0;
+            length = digits;
+            after = at + digits;
             value = 0;
-            for (; after < size && isDigit(text[after]); after++) {
-                if (length < DIGITS_MOST) {
-                    value = value * 10 + text[after] - '0';
-                }
-                length++;
+            for (int k = 0; k < digits && k < DIGITS_MOST; k++) {
+                value = value * 10 + text[at + k] - '0';
             }
-        }
-
-        private static boolean isLetter(int b) {
-            return b >= 'a' && b <= 'z';
-        }
-
-        private static boolean isDigit(int b) {
-            return b >= '0' && b <= '9';
         }
 
         boolean isEnd() {
@@ -1107,20 +1104,16 @@ public final class CelloBoats {
                 scan.next();
                 emit(1);
             } else {
-                comparison();
+                sum();
+                int sign = scan.signHere();
+                if (sign != '<' && sign != '>' && sign != '=') {
+                    scan.failHere();
+                    return;
+                }
+                scan.next();
+                sum();
+                emit(OF_TWO + sign);
             }
-        }
-
-        private void comparison() {
-            sum();
-            int sign = scan.signHere();
-            if (sign != '<' && sign != '>' && sign != '=') {
-                scan.failHere();
-                return;
-            }
-            scan.next();
-            sum();
-            emit(OF_TWO + sign);
         }
 
         void sum() {
@@ -1228,6 +1221,8 @@ public final class CelloBoats {
                 } else if (i == 0) {
                     scan.needWord(W_SOUND);
                     chart.last = scan.needNumber(5, MILES - 1);
+                } else if (formulaHere() != NONE) {
+                    readFormula(formulaHere());
                 } else {
                     statement();
                 }
@@ -1252,15 +1247,22 @@ public final class CelloBoats {
             }
         }
 
+        /** Which formula is told here, NONE for any other STATEMENT. */
+        private int formulaHere() {
+            switch (scan.wordHere()) {
+                case W_CARRY: return CARRY;
+                case W_SLIPS: return SLIPS;
+                case W_SWAMP: return SWAMP;
+                default: return NONE;
+            }
+        }
+
         private void statement() {
             switch (scan.wordHere()) {
                 case W_BOAT: readBoat(); break;
                 case W_SCORE: readScore(); break;
                 case W_WOLF: readWolf(); break;
                 case W_RIDER: readRider(); break;
-                case W_CARRY: readFormula(CARRY); break;
-                case W_SLIPS: readFormula(SLIPS); break;
-                case W_SWAMP: readFormula(SWAMP); break;
                 case W_WIND:
                     scan.next();
                     chart.wind = scan.needNumber(0, 9);

@@ -75,6 +75,10 @@ public final class EdgesPromises3Test {
         Check.due("acts", x.has(9), 3);
         CelloBoats none = Check.with("sound 9;boat a at 9 tight 2 rosin 0;");
         Check.due("99 of 0, landed", none.rosin(0, 99), 99);
+        CelloBoats sunk = Check.with("sound 9;boat a at 1 tight 2 rosin 3;score a 1;swamp all;");
+        sunk.hours(1);
+        Check.due("sunk", sunk.boat(0, 3), 1);
+        Check.due("4 of 2, sunk", sunk.rosin(0, 4), 6);
 
         Edge.of("NONE, refused (2), when it has 99, there is none such, or for others.");
         CelloBoats y = Check.with("sound 9;boat a at 1 tight 2 rosin 99;boat b at 1 tight 2 rosin 98;");
@@ -130,6 +134,13 @@ public final class EdgesPromises3Test {
         Check.due("it is 7", x.score(0, 1), 7);
         Check.due("the first still", x.score(0, 0), 0);
         Check.due("acts", x.has(9), 2);
+        CelloBoats under = Check.with("sound 9;boat a at 1 tight 2 rosin 3;boat b at 9 tight 2 rosin 3;score a 1;score a 2;score b 1;score a 3;carry 0;");
+        under.hours(2);
+        Check.due("ahead of the next one", under.note(0, 0, 4), true);
+        Check.due("the next one itself", under.note(0, 2, 5), true);
+        Check.due("the next one is where it was", under.boat(0, 6), 2);
+        Check.due("of a landed one", under.note(1, 0, 6), true);
+        Check.due("of a landed one it is 6", under.score(1, 0), 6);
         // what stands at another place, or is the number of a place, is no matter
         CelloBoats same = Check.with("sound 9;boat a at 1 tight 2 rosin 3;score a 7;score a 5;score a 4;");
         Check.due("that of another place", same.note(0, 1, 7), true);

@@ -122,6 +122,17 @@ public final class EdgesTerm3Test {
         CelloBoats all = Check.with("sound 60;boat a at 52 tight 0 rosin 0;carry 0-9;");
         Check.due("no more than that back", all.plan(0, 0, -1), -1);
         Check.due("no more than that back, k", all.plan(0, 0, 0), -1);
+        // a row of NOTES, not of HOURS: it may be longer than the HOURS that still come
+        for (int hour = 997; hour <= 999; hour++) {
+            CelloBoats late = Check.with("sound 60;boat a at 20 tight 0 rosin 0;score a 0;carry note-3;");
+            for (int left = hour; left > 0; left -= Math.min(100, left)) {
+                late.hours(Math.min(100, left));
+            }
+            late.tune(0, 1);
+            Check.due("hour", late.has(4), hour);
+            Check.due("at mile 0", late.boat(0, 0), 0);
+            dueRow("at hour " + hour, late, 20, 7, 7, 7, 7, 7);
+        }
     }
 
     private static void planRow() {
